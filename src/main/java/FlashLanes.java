@@ -790,7 +790,7 @@ public final class FlashLanes {
         }
 
         boolean isBeingErased(int s) {
-            return work == ALL || work == ERASE && workSector == s || suspendedSector == s;
+            return work == ALL || (work == ERASE && workSector == s) || suspendedSector == s;
         }
 
         void open() {

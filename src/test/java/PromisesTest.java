@@ -31,6 +31,7 @@ public final class PromisesTest {
         keep();
         back();
         backTakesAll();
+        backTakesErase();
         unlike();
         count();
         Due.end();
@@ -165,6 +166,12 @@ public final class PromisesTest {
         fault("t3,5;t4,6;c30;", NONE);
         fault("g4,2,2;g16,4,4;t9,20;c53;", NONE);
         fault("c28;x", 0);
+        FlashLanes x = new FlashLanes();
+        Due.text(x, "g8,4,8;c27;");
+        Due.text(x, "g8,4,8");
+        Due.is("4: letters wiped do not count", x.fault(), 0);
+        Due.text(x, "t2,5");
+        Due.is("4: letters wiped do not count", x.fault(), 0);
     }
 
     private static void lay() {
@@ -224,25 +231,13 @@ public final class PromisesTest {
         }
         Due.is("5: not selected", x.put(0), NO);
         Due.is("5: nothing kept", x.back(), NO);
-        x.order(102, 0, 0);
-        x.lay();
-        x.order(49, 1, 1);
-        x.order(102, 0, 0);
         enable(x);
         x.order(199, 0, 0);
         x.lay();
         Due.is("5: not busy", x.tick(1), 0);
-        x.order(102, 0, 0);
-        x.lay();
         enable(x);
         x.lay();
         Due.is("5: not enabled", x.count(7), 0);
-        x.order(102, 0, 0);
-        x.lay();
-        x.select();
-        x.put(153);
-        x.release();
-        Due.is("5: lanes", x.count(6), 1);
     }
 
     private static void select() {
@@ -609,6 +604,9 @@ public final class PromisesTest {
         Due.is("10: ALL, one locked", refused(x, 199, 0, 0), 128);
         Due.is("10: begun", x.count(13), 2);
         x.send(57, 32, 0, 0);
+        x.send(54, 0, 0, 0);
+        Due.is("10: ALL, the first locked", refused(x, 199, 0, 0), 128);
+        x.send(57, 0, 0, 0);
         Due.is("10: ALL", refused(x, 199, 0, 0), 1);
         enable(x);
         x.order(1, 4, 1);
@@ -689,14 +687,24 @@ public final class PromisesTest {
         Due.is("11: tick(100), busy", x.tick(100), BAD);
         Due.is("11: ERASE", x.tick(1), 1);
         Due.is("11: erased", x.at(0), 255);
-        program(x, 23, 0, 1);
+        for (int a = 0; a < 24; a++) {
+            program(x, a, 0, 1);
+        }
+        enable(x);
+        x.send(32, 12, 0, 0);
+        x.tick(20);
+        for (int a = 0; a < 24; a++) {
+            Due.is("11: ERASE, its sector alone: " + a, x.at(a), a >= 8 && a < 16 ? 255 : 0);
+        }
         enable(x);
         x.order(199, 0, 0);
         Due.is("11: ALL", x.tick(59), 59);
         Due.is("11: not erased yet", x.at(23), 0);
         x.select();
         Due.is("11: ALL, selected", x.tick(2), 1);
-        Due.is("11: erased", x.at(23), 255);
+        for (int a = 0; a < 24; a++) {
+            Due.is("11: erased by ALL", x.at(a), 255);
+        }
     }
 
     private static void at() {
@@ -883,6 +891,55 @@ public final class PromisesTest {
         x.back();
         x.order(153, 0, 0);
         Due.is("16: readied", x.count(6), 1);
+    }
+
+    private static void backTakesErase() {
+        FlashLanes x = new FlashLanes();
+        program(x, 32, 0, 1);
+        program(x, 96, 0, 1);
+        enable(x);
+        x.send(32, 96, 0, 0);
+        x.tick(1);
+        x.keep();
+        x.tick(4);
+        enable(x);
+        x.send(32, 32, 0, 0);
+        x.tick(2);
+        x.back();
+        Due.is("16: its sector", x.sector(3, 4), 1);
+        Due.is("16: another's", x.sector(1, 4), 0);
+        Due.is("16: left", x.tick(99), 4);
+        Due.is("16: erased", x.at(96), 255);
+        Due.is("16: not erased", x.at(32), 0);
+        enable(x);
+        x.send(32, 32, 0, 0);
+        x.tick(3);
+        x.order(117, 0, 0);
+        enable(x);
+        x.send(32, 0, 0, 0);
+        x.keep();
+        x.order(122, 0, 0);
+        x.tick(1);
+        x.order(117, 0, 0);
+        enable(x);
+        x.back();
+        Due.is("16: error", x.count(7), 128 + 64);
+        Due.is("16: left, suspended", x.count(9), 2);
+        FlashLanes y = new FlashLanes();
+        enable(y);
+        y.select();
+        y.put(2);
+        y.put(0);
+        for (int i = 0; i < 8; i++) {
+            y.put(i);
+        }
+        y.keep();
+        y.release();
+        y.back();
+        y.release();
+        for (int i = 0; i < 8; i++) {
+            Due.is("16: the whole page that was put", y.at(i), i);
+        }
     }
 
     private static void unlike() {
