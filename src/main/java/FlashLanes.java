@@ -346,7 +346,7 @@ public final class FlashLanes {
         }
 
         int all() {
-            return sectorBytes() * sectors;
+            return pageBytes * sectorPages * sectors;
         }
 
         int together() {
@@ -782,11 +782,11 @@ public final class FlashLanes {
 
         private boolean isAnyGuarded() {
             for (int s = 0; s < shape.sectors(); s++) {
-                if (isGuarded(s)) {
+                if (isLocked(s)) {
                     return true;
                 }
             }
-            return false;
+            return level > 0;
         }
 
         boolean isBeingErased(int s) {
