@@ -78,11 +78,27 @@ public final class FormTest {
             Due.is("not public or protected: " + c, c.getModifiers() & (Modifier.PUBLIC | Modifier.PROTECTED), 0);
             int fields = 0;
             for (Field f : c.getDeclaredFields()) {
-                boolean isStatic = Modifier.isStatic(f.getModifiers());
-                fields += isStatic ? 0 : 1;
-                Due.is("a static field is final: " + f, isStatic && !Modifier.isFinal(f.getModifiers()) ? 1 : 0, 0);
+                fields += Modifier.isStatic(f.getModifiers()) ? 0 : 1;
             }
             Due.is("at most twenty fields: " + c, Math.max(fields, 20), 20);
+            staticsAreConstants(c);
+            for (Method m : c.getDeclaredMethods()) {
+                boolean hidden = Modifier.isPrivate(m.getModifiers());
+                for (String row : FACE) {
+                    Due.is("a private method has a public one's name: " + m,
+                            hidden && m.getName().equals(row.split(" ")[0]) ? 1 : 0, 0);
+                }
+            }
+        }
+        staticsAreConstants(FlashLanes.class);
+    }
+
+    private static void staticsAreConstants(Class<?> c) {
+        for (Field f : c.getDeclaredFields()) {
+            if (Modifier.isStatic(f.getModifiers())) {
+                Due.is("a static field is final: " + f, f.getModifiers() & Modifier.FINAL, Modifier.FINAL);
+                Due.is("a static field is an int: " + f, f.getType() == int.class ? 1 : 0, 1);
+            }
         }
     }
 
