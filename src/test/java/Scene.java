@@ -62,6 +62,16 @@ enum Scene {
         x.send(54, 40, 0, 0);
         Due.enable(x);
     }),
+    ALL_LOCKED("enabled", x -> {
+        for (int s = 0; s < 8; s++) {
+            x.send(54, s * 32, 0, 0);
+        }
+        Due.enable(x);
+    }),
+    ENDS_PROGRAMMED("", x -> {
+        Due.program(x, 0, 0, 1);
+        Due.program(x, 255, 0, 1);
+    }),
     READIED("", x -> {
         x.order(49, 3, 1);
         x.order(102, 0, 0);

@@ -113,6 +113,15 @@ public final class TextEdgesTest {
         Due.is("lay", x.lay(), 256);
         Due.text(x, "c2");
         Due.is("letters wiped are gone", x.fault(), 0);
+        String whole = "g4,2,2;t9,20;c37;";
+        for (int cut = 1; cut < whole.length(); cut++) {
+            if (whole.charAt(cut - 1) != ';') {
+                FlashLanes y = told(whole);
+                Due.text(y, whole.substring(0, cut));
+                Due.is("letters wiped are not behind the first " + cut, y.fault() < 0 ? 1 : 0, 0);
+                Due.is("lay of the first " + cut, y.lay(), NO);
+            }
+        }
     }
 
     private static void empty() {
