@@ -137,6 +137,8 @@ public final class KeptEdgesTest {
                 Due.is(scene + ": put", x.put(9), y.put(9));
                 Due.is(scene + ": release", x.release(), y.release());
                 Due.is(scene + ": tick", x.tick(99), y.tick(99));
+                Due.is(scene + ": RESET", x.order(153, 0, 0), y.order(153, 0, 0));
+                Due.is(scene + ": LANES", x.count(6), y.count(6));
             }
         }
     }

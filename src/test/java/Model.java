@@ -1,6 +1,7 @@
 import java.util.ArrayDeque;
 import java.util.ArrayList;
 import java.util.Arrays;
+import java.util.Collections;
 import java.util.Deque;
 import java.util.List;
 import java.util.regex.Matcher;
@@ -56,6 +57,22 @@ final class Model {
     private String text = "";
     private State st = new State(new int[] {8, 4, 8, 2, 5});
     private final Deque<State> kept = new ArrayDeque<>();
+
+    /** Two models with the same key do the same from there on, but for clocks and how much was begun. */
+    String key() {
+        StringBuilder key = new StringBuilder(text);
+        key.append(keyOf(st));
+        for (State each : kept) key.append(keyOf(each));
+        return key.toString();
+    }
+
+    private static String keyOf(State s) {
+        boolean readied = s.lastIn != null && s.lastIn.equals(List.of(102));
+        List<Integer> locked = new ArrayList<>(s.locked);
+        Collections.sort(locked);
+        return "|" + Arrays.toString(s.shape) + Arrays.toString(s.mem) + locked + s.in + readied + s.lanes + s.level
+                + s.enabled + s.error + Arrays.toString(s.busy) + Arrays.toString(s.asleep);
+    }
 
     private static boolean out(int v, int low, int high) {
         return v < low || v > high;

@@ -56,6 +56,38 @@ enum Scene {
         Due.enable(x);
         x.send(2, 70, 0, 2);
     }),
+    SUSPENDED_AND_LOCKED("enabled", x -> {
+        Due.program(x, 40, 7, 3);
+        Due.erase(x, 33);
+        x.tick(3);
+        x.order(117, 0, 0);
+        x.send(54, 40, 0, 0);
+        x.send(54, 100, 0, 0);
+        Due.enable(x);
+    }),
+    RESUMED_AND_ENABLED("busy enabled", x -> {
+        Due.level(x, 1);
+        Due.erase(x, 33);
+        x.order(117, 0, 0);
+        Due.enable(x);
+        x.order(122, 0, 0);
+    }),
+    RESUMED_WITH_ERROR("busy", x -> {
+        x.send(54, 100, 0, 0);
+        Due.program(x, 40, 7, 3);
+        Due.erase(x, 33);
+        x.order(117, 0, 0);
+        Due.erase(x, 0);
+        x.order(49, 1, 1);
+        x.order(122, 0, 0);
+    }),
+    ERROR("", x -> {
+        Due.level(x, 2);
+        x.send(54, 40, 0, 0);
+        x.send(54, 70, 0, 0);
+        x.order(49, 2, 1);
+        Due.erase(x, 255);
+    }),
     ALL_SET("enabled", x -> {
         x.order(49, 2, 1);
         Due.level(x, 2);

@@ -29,6 +29,7 @@ public final class WorkEdgesTest {
         suspendNothing();
         suspendedRefuses();
         resume();
+        resumeGuarded();
         resumeNothing();
         ready();
         readyAndReset();
@@ -563,6 +564,23 @@ public final class WorkEdgesTest {
         Due.is("done", x.count(7), 0);
     }
 
+    /** Refused are PROGRAM, ERASE, ALL and TELL alone, when they are begun. */
+    private static void resumeGuarded() {
+        Due.by("They are refused: PROGRAM, ERASE in a GUARDED SECTOR");
+        FlashLanes x = new FlashLanes();
+        Due.program(x, 40, 7, 1);
+        Due.erase(x, 40);
+        x.order(117, 0, 0);
+        x.send(54, 40, 0, 0);
+        Due.is("LOCKED while SUSPENDED, no ERROR", x.count(7), 64);
+        x.order(122, 0, 0);
+        Due.is("RESUME all the same", x.count(7), 1);
+        Due.is("TICKS", x.tick(99), 5);
+        Due.is("done, no ERROR", x.count(7), 0);
+        Due.is("BYTES", x.at(40), 255);
+        Due.is("LOCKED still", x.sector(1, 2), 1);
+    }
+
     private static void resumeNothing() {
         Due.by("RESUME: nothing is SUSPENDED");
         FlashLanes x = new FlashLanes();
@@ -633,6 +651,28 @@ public final class WorkEdgesTest {
             x.order(102, 0, 0);
             x.select();
             x.release();
+        });
+        reset("kept between", true, x -> {
+            x.order(102, 0, 0);
+            x.keep();
+        });
+        reset("another RELEASE between, taken back", true, x -> {
+            x.order(102, 0, 0);
+            x.keep();
+            x.order(6, 0, 0);
+            x.back();
+        });
+        reset("READY taken back", false, x -> {
+            x.keep();
+            x.order(102, 0, 0);
+            x.back();
+        });
+        reset("a text between, not LAID", true, x -> {
+            x.order(102, 0, 0);
+            x.write('t');
+            x.fault();
+            x.lay();
+            x.wipe();
         });
         reset("looks and TICKS between", true, x -> {
             x.order(102, 0, 0);
