@@ -63,7 +63,9 @@ public final class ModelTest {
         int n = 2 + dice.nextInt(7);
         int t = 1 + dice.nextInt(9);
         int e = 1 + dice.nextInt(20);
-        String text = "g" + p + "," + s + "," + n + ";t" + t + "," + e + ";c" + (p + s + n + t + e) + ";";
+        String parts = "g" + p + "," + s + "," + n + ";";
+        String ticks = "t" + t + "," + e + ";";
+        String text = (dice.nextBoolean() ? parts + ticks : ticks + parts) + "c" + (p + s + n + t + e) + ";";
         if (dice.nextInt(5) == 0) text = "t1,1;" + text;
         if (dice.nextInt(4) == 0) {
             int cut = dice.nextInt(text.length());

@@ -6,7 +6,7 @@ import java.util.function.Predicate;
 public final class NothingElseTest {
     private static final int[] COMMANDS = {3, 11, 90, 5, 6, 4, 1, 2, 32, 199, 117, 122, 49, 54, 57, 102, 153, 0, 255};
     private static final int[] HOW_MANY = {0, 1, 2, 3, 20};
-    private static final int[] FIRSTS = {0, 3, 12, 33, 40, 70, 255};
+    private static final int[] FIRSTS = {0, 3, 12, 33, 40, 70, 100, 255};
 
     private final Scene scene;
     /** Seen on an object of its own: two looks at one object would be more than its 512 calls. */

@@ -25,12 +25,14 @@ enum Scene {
         x.tick(1);
     }),
     BUSY_ERASE("busy", x -> {
-        Due.program(x, 40, 7, 3);
+        Due.program(x, 32, 7, 3);
+        Due.program(x, 63, 7, 1);
         Due.erase(x, 33);
         x.tick(2);
     }),
     BUSY_ALL("busy", x -> {
-        Due.program(x, 40, 7, 3);
+        Due.program(x, 0, 7, 3);
+        Due.program(x, 255, 7, 1);
         Due.enable(x);
         x.order(199, 0, 0);
         x.tick(2);

@@ -19,6 +19,7 @@ public final class TextEdgesTest {
         figures();
         withoutParts();
         lastOneCounts();
+        anyOrder();
         checks();
         checkIsOfWhatIsAhead();
         checkIsLast();
@@ -261,6 +262,31 @@ public final class TextEdgesTest {
         fault("g4,2,2;g16,8,3;g4,2,2;c15;", 7);
         fault("t0,1;t1,1;c22;", 0);
         fault("t1,1;t1,21;t1,1;c22;", 5);
+    }
+
+    /** Up to four items, each row of them there is: those of the other kind between change nothing. */
+    private static void anyOrder() {
+        Due.by("A TEXT is ITEMS one behind the other; without, or the last one counts");
+        String[] items = {"g4,2,3;", "g16,8,2;", "t9,20;", "t1,3;"};
+        int[][] told = {{4, 2, 3}, {16, 8, 2}, {9, 20}, {1, 3}};
+        for (int length = 0; length <= 4; length++) {
+            for (int row = 0; row < 1 << 2 * length; row++) {
+                int[] g = {8, 4, 8};
+                int[] t = {2, 5};
+                StringBuilder text = new StringBuilder();
+                for (int i = 0; i < length; i++) {
+                    int item = row >> 2 * i & 3;
+                    text.append(items[item]);
+                    g = item < 2 ? told[item] : g;
+                    t = item < 2 ? t : told[item];
+                }
+                int check = g[0] + g[1] + g[2] + t[0] + t[1];
+                fault(text + "c" + (check + 1) + ";", text.length());
+                FlashLanes x = told(text + "c" + check + ";");
+                Due.is("lay of " + text, x.lay(), g[0] * g[1] * g[2]);
+                parts(x, g[0], g[1], g[2], t[0], t[1]);
+            }
+        }
     }
 
     private static void checks() {

@@ -305,6 +305,14 @@ public final class WorkEdgesTest {
             Due.is("tick(" + n + ") of 20", x.tick(n), Math.min(n, 20));
             Due.is("left", x.count(9), Math.max(0, 20 - n));
         }
+        for (int e = 1; e <= 20; e++) {
+            for (int n = 2; n <= 8; n++) {
+                FlashLanes x = Due.chip(4, 2, n, 1, e);
+                begin(x, 199, 0);
+                Due.is("ALL of " + n + " by " + e, x.tick(99), Math.min(99, n * e));
+                Due.is("ALL of " + n + " by " + e + ", the rest", x.tick(99), Math.max(0, n * e - 99));
+            }
+        }
         FlashLanes x = Due.chip(4, 2, 8, 1, 20);
         begin(x, 199, 0);
         Due.is("tick(99) of 160", x.tick(99), 99);
@@ -753,6 +761,7 @@ public final class WorkEdgesTest {
         Due.by("what counts is whether it is BUSY at that PUT (BYTES are PUT all the same)");
         int[] table = {83, 70, 4, 2, 2, 1, 20, 182, 255, 255};
         for (int command : new int[] {3, 11, 90}) {
+            int[] puts = {command, 1, 0};
             for (int busy = 0; busy <= 10; busy++) {
                 FlashLanes x = Due.chip(4, 2, 2, 1, 20);
                 Due.program(x, 0, 10, 4);
@@ -762,8 +771,10 @@ public final class WorkEdgesTest {
                 x.select();
                 for (int i = 0; i < 10; i++) {
                     int read = i - (command == 3 ? 2 : 3);
-                    int due = i < busy || read < 0 ? 255 : command == 90 ? table[read] : 10 + read;
-                    Due.is(command + ", PUT " + i + " with " + busy + " BUSY", x.put(i == 0 ? command : 0), due);
+                    int a = read + 1;
+                    int content = command == 90 ? table[Math.max(a, 0)] : a < 8 ? 10 + a : 255;
+                    int due = i < busy || read < 0 ? 255 : content;
+                    Due.is(command + ", PUT " + i + " with " + busy + " BUSY", x.put(puts[Math.min(i, 2)]), due);
                     x.tick(1);
                 }
             }
