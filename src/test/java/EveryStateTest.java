@@ -6,22 +6,23 @@ import java.util.Set;
 
 /** Every state that a small chip comes to by the steps below, each further step from there: all as in the model. */
 public final class EveryStateTest {
-    private static final String SMALL = "g4,2,2;t1,2;c11;";
+    private static final String SMALL = "g4,2,3;t2,3;c14;";
     /** Above what there is, so that a model gone astray does not run on. */
     private static final int MOST_STATES = 100000;
 
     /** Steps by which other states are sought: the letter of a call, its numbers. */
     private static final int[][] STEPS = {
         {'o', 6, 0, 0}, {'o', 4, 0, 0}, {'o', 1, 0, 1}, {'o', 1, 4, 1}, {'o', 1, 8, 1}, {'s', 2, 0, 0, 1},
-        {'s', 2, 9, 0, 1}, {'s', 32, 0, 0, 0}, {'s', 32, 8, 0, 0}, {'o', 199, 0, 0}, {'o', 117, 0, 0},
-        {'o', 122, 0, 0}, {'o', 49, 0, 1}, {'o', 49, 2, 1}, {'s', 54, 0, 0, 0}, {'s', 54, 8, 0, 0},
-        {'s', 57, 0, 0, 0}, {'s', 57, 8, 0, 0}, {'o', 102, 0, 0}, {'o', 153, 0, 0}, {'t', 1},
+        {'s', 2, 9, 0, 1}, {'s', 32, 0, 0, 0}, {'s', 32, 8, 0, 0}, {'s', 32, 16, 0, 0}, {'o', 199, 0, 0},
+        {'o', 117, 0, 0}, {'o', 122, 0, 0}, {'o', 49, 0, 1}, {'o', 49, 2, 1}, {'s', 54, 0, 0, 0}, {'s', 54, 8, 0, 0},
+        {'s', 54, 16, 0, 0}, {'s', 57, 0, 0, 0}, {'s', 57, 8, 0, 0}, {'s', 57, 16, 0, 0}, {'o', 102, 0, 0},
+        {'o', 153, 0, 0}, {'t', 1},
     };
 
     /** Steps gone from every state, without seeking other states behind them. */
     private static final int[][][] ASIDE = {
         {{'S'}, {'R'}, {'o', 153, 0, 0}},
-        {{'S'}, {'p', 3}, {'p', 15}, {'p', 0}, {'t', 1}, {'p', 0}, {'p', 0}, {'R'}},
+        {{'S'}, {'p', 3}, {'p', 23}, {'p', 0}, {'t', 1}, {'p', 0}, {'p', 0}, {'R'}},
         {{'S'}, {'p', 11}, {'t', 1}, {'p', 9}, {'p', 0}, {'p', 0}, {'R'}, {'o', 153, 0, 0}},
         {{'S'}, {'p', 5}, {'p', 0}, {'t', 1}, {'p', 0}, {'R'}},
         {{'S'}, {'p', 90}, {'p', 6}, {'p', 0}, {'p', 0}, {'p', 0}, {'p', 0}, {'R'}},
@@ -150,10 +151,10 @@ public final class EveryStateTest {
         for (int what = 0; what < 14; what++) {
             if (!same(x.count(what), model.count(what))) return "count(" + what + ")";
         }
-        for (int a = 0; a < 16; a++) {
+        for (int a = 0; a < 24; a++) {
             if (!same(x.at(a), model.at(a))) return "at(" + a + ")";
         }
-        for (int s = 0; s < 2; s++) {
+        for (int s = 0; s < 3; s++) {
             for (int what = 0; what < 5; what++) {
                 if (!same(x.sector(s, what), model.sector(s, what))) return "sector(" + s + ", " + what + ")";
             }
